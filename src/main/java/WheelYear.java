@@ -1071,10 +1071,6 @@ public final class WheelYear {
             if (isWord("not", start)) {
                 return NOT;
             }
-            return partKind(start);
-        }
-
-        private int partKind(int start) {
             if (isWord("day", start)) {
                 return FIRST_PART + TELL_DAY;
             }
@@ -1136,8 +1132,8 @@ public final class WheelYear {
         /** The law that the text is; null, and fault tells where, if it is none. */
         private Law lawOf(int[] bytes, int byteCount) {
             tokens.takeAll(bytes, byteCount);
-            token = 0;
-            lookAtToken();
+            token = NONE;
+            nextToken();
             parts = 0;
             clauses = 0;
             steps = 0;
@@ -1363,14 +1359,7 @@ public final class WheelYear {
 
         /** Stays at the end's token once it is there. */
         private void nextToken() {
-            token++;
-            lookAtToken();
-        }
-
-        private void lookAtToken() {
-            if (token >= tokens.tokenCount) {
-                token = tokens.tokenCount - 1;
-            }
+            token = Math.min(token + 1, tokens.tokenCount - 1);
             if (token >= 0 && token <= MOST_BYTES) {
                 tokenKind = tokens.kinds[token];
                 tokenNumber = tokens.numbers[token];
@@ -1686,7 +1675,7 @@ public final class WheelYear {
             int aim = onRing(wideAway, wide) * high + onRing(highAway, high);
             int size = wide * high;
             newest = 0;
-            meet(0, 0);
+            addToLink(0, 1);
             int at = 0;
             for (int i = 0; i < size && at != NONE && !isMet(aim); i++) {
                 goOnFrom(at);
@@ -1701,9 +1690,9 @@ public final class WheelYear {
             int y = at - x * high;
             for (int k = Math.min(knobs, MOST_KNOBS) - 1; k >= earliest; k--) {
                 int next = placeAt(x + wideBy[k], y + highBy[k]);
-                if (!isMet(next)) {
+                if (next >= 0 && next < links.length && links[next] == 0) {
+                    links[next] = k + 1;
                     addToLink(newest, (next + 1) << KNOB_BITS);
-                    meet(next, k);
                     newest = next;
                 }
             }
@@ -1735,10 +1724,6 @@ public final class WheelYear {
 
         private int pushesOf(int knob) {
             return knob >= 0 && knob < knobs && knob < MOST_KNOBS ? times[knob] : NONE;
-        }
-
-        private void meet(int place, int knob) {
-            addToLink(place, knob + 1);
         }
 
         private boolean isMet(int place) {
