@@ -1521,8 +1521,11 @@ public final class WheelYear {
             tried[0] = a;
             tried[1] = b;
             for (int c = a + 1; c < state.wheels; c++) {
+                if (c == b) {
+                    continue;
+                }
                 long upper = (long) state.wheelAt(a) * state.wheelAt(c);
-                for (int d = b + 1; d < state.wheels && c != b; d++) {
+                for (int d = b + 1; d < state.wheels; d++) {
                     if (d != a && d != c) {
                         tried[2] = c;
                         tried[3] = d;

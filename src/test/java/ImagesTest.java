@@ -142,6 +142,19 @@ final class ImagesTest {
         spoil(x);
         check.due("images stay", x.back(0), 0);
         dueFull("third back", x);
+        for (int i = 0; i < 4; i++) {
+            x.pair(1, 50 + i, 60 + i);
+        }
+        x.image(1);
+        x.strip(1);
+        for (int i = 0; i < 4; i++) {
+            x.pair(1, 70 + i, 80 + i);
+        }
+        x.back(1);
+        for (int i = 0; i < 4; i++) {
+            check.due("four pairs", x.of(1, 4 + 2 * i), 50 + i);
+            check.due("four pairs", x.of(1, 5 + 2 * i), 60 + i);
+        }
         x.terms(0, 3);
         x.image(0);
         x.terms(0, 4);

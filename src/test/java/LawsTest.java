@@ -150,6 +150,13 @@ final class LawsTest {
         fault("shows 99999999999999999999999999", 6);
         fault("shows 1 or 1=1", 8);
         fault("shows 1 <2", 8);
+        fault("xhows 1", 0);
+        fault("showx 1", 0);
+        fault("shows dayz", 6);
+        fault("shows day{", 9);
+        fault("shows `day", 6);
+        fault("shows 1/2:", 9);
+        fault("shows aday", 6);
     }
 
     private static void limits() {
@@ -184,6 +191,17 @@ final class LawsTest {
         fault("shows 1 if ((((([[[[1]]]]=1)))))", 19);
         fault("shows 1 if 1=[[[[[[[[1]]]]]]]]", -1);
         fault("shows 1 if ((((((((1=1)))))))) and not ((((((((1=1))))))))", -1);
+
+        fault(";".repeat(400), 0);
+        fault("z".repeat(400), 0);
+        fault("9".repeat(400), 0);
+        fault(" ".repeat(400), 400);
+        fault("shows 1" + " ".repeat(393), -1);
+        fault("shows 1" + " ".repeat(392) + ";", 400);
+        fault("shows 1" + " ".repeat(392) + "1", 399);
+        fault("shows " + "0".repeat(393) + "7", -1);
+        fault("shows " + "0".repeat(389) + "10001", 6);
+        says("shows " + "0".repeat(389) + "10000", 10000);
 
         StringBuilder nots = new StringBuilder("shows 1 if ");
         for (int i = 0; i < 96; i++) {
