@@ -850,7 +850,11 @@ public final class WheelYear {
 
         private void takeFrom(State other) {
             for (int h = 0; h < MOST_HANDS; h++) {
-                hands[h].takeFrom(other.hands[h]);
+                Hand own = hands[h];
+                Hand told = other.hands[h];
+                if (own != null && told != null) {
+                    own.takeFrom(told);
+                }
             }
             handCount = other.handCount;
             System.arraycopy(other.stock, 0, stock, 0, MOST_WHEELS);
@@ -870,10 +874,11 @@ public final class WheelYear {
         }
 
         private int newHand(int marks) {
-            if (handCount < 0 || handCount >= hands.length) {
+            Hand next = handCount >= 0 && handCount < hands.length ? hands[handCount] : null;
+            if (next == null) {
                 return NONE;
             }
-            hands[handCount].begin(marks);
+            next.begin(marks);
             handCount++;
             return handCount - 1;
         }
