@@ -184,6 +184,15 @@ final class KnobBounds {
         dueSet(x, 10, 0, 7);
     }
 
+    static void promise34_dialsOfOneMark() {
+        // each push leaves a dial of one MARK where it is
+        dueSet(withKnobs(1, 12, 1, 1), 0, 5, 5);
+        dueSet(withKnobs(12, 1, 1, 1), 5, 0, 5);
+        dueSet(withKnobs(1, 1, 9, 9), 0, 0, 0);
+        dueCant(withKnobs(1, 1, 1, 1), 0, 1);
+        dueSet(withKnobs(2, 3, 1, 1), 1, 0, 3);
+    }
+
     static void promise34_theFewestInAll() {
         // (0 1) though (9 0) would do, (1 0) though (0 9) would be ahead of it as a row
         dueSet(withKnobs(12, 12, 1, 0, 9, 0), 9, 0, 0, 1);

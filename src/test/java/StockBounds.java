@@ -74,6 +74,22 @@ final class StockBounds {
         due("teeth(9)", x.teeth(9), NONE);
     }
 
+    static void promise08_ofAFullStockAllMoveUp() {
+        WheelYear x = stockOf(12);
+        due("drop(0)", x.drop(0), 11);
+        for (int i = 0; i < 11; i++) {
+            due("teeth(" + i + ")", x.teeth(i), 21 + i);
+        }
+        due("teeth(11)", x.teeth(11), NONE);
+        WheelYear y = stockOf(12);
+        due("drop(10)", y.drop(10), 11);
+        due("teeth(9)", y.teeth(9), 29);
+        due("teeth(10)", y.teeth(10), 31);
+        WheelYear z = stockOf(12);
+        due("drop(11)", z.drop(11), 11);
+        due("teeth(10)", z.teeth(10), 30);
+    }
+
     static void promise08_theOnlyOne() {
         WheelYear x = stockOf(1);
         due("drop(0)", x.drop(0), 0);
